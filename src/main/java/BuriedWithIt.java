@@ -51,7 +51,7 @@ public final class BuriedWithIt {
             return NONE;
         }
         for (int shift = 24; shift >= 0; shift -= 8) {
-            signs[signCount] = (char) (v >>> shift & 255);
+            signs[signCount] = (char) ((v >>> shift) & 255);
             signCount++;
         }
         return signCount;
@@ -301,7 +301,7 @@ public final class BuriedWithIt {
         }
         long without = 0;
         for (int f = 0; f < ground.size; f++) {
-            if (!band.comes(now, goer, now.locked | 1L << f)) {
+            if (!band.comes(now, goer, now.locked | (1L << f))) {
                 without |= 1L << f;
             }
         }
@@ -317,7 +317,7 @@ public final class BuriedWithIt {
         int from = now.from[goer];
         int goal = now.goal[goer];
         long can = band.goable(now, rule, goer);
-        if ((ground.flood(can, from) >>> goal & 1) == 0) {
+        if (!hasBit(ground.flood(can, from), goal)) {
             return 0;
         }
         if (from == goal || ground.areBeside(from, goal)) {
@@ -339,7 +339,7 @@ public final class BuriedWithIt {
                 best = open;
             }
             // The next set within the LOCKED ones, in growing order of its bits.
-            open = open - locked & locked;
+            open = (open - locked) & locked;
             if (open == 0) {
                 break;
             }
@@ -391,7 +391,7 @@ public final class BuriedWithIt {
         long reached = ground.flood(band.goable(now, rule, goer), now.from[goer]);
         int most = 0;
         for (int f = 0; f < ground.size; f++) {
-            if ((reached >>> f & 1) != 0) {
+            if (hasBit(reached, f)) {
                 most = Math.max(most, rule.hardness(now, goer, f, now.isLocked(f)));
             }
         }
@@ -410,7 +410,7 @@ public final class BuriedWithIt {
         int best = NOT_SO;
         trial.take(now);
         for (int kind = 1; kind <= 3; kind++) {
-            trial.rights[goer] = now.rights[goer] | 1 << kind;
+            trial.rights[goer] = now.rights[goer] | (1 << kind);
             way = pathOf(trial, goer);
             if (way.isThere() && way.hardness < least) {
                 least = way.hardness;
@@ -430,8 +430,8 @@ public final class BuriedWithIt {
         int best = NOT_SO;
         int bestWithout = 0;
         for (int f = 0; f < ground.size; f++) {
-            if ((ruledOut >>> f & 1) == 0) {
-                int without = band.blockedBy(now, now.locked | 1L << f);
+            if (!hasBit(ruledOut, f)) {
+                int without = band.blockedBy(now, now.locked | (1L << f));
                 if (best < 0 || Integer.bitCount(without) > Integer.bitCount(bestWithout)) {
                     best = f;
                     bestWithout = without;
@@ -847,6 +847,10 @@ public final class BuriedWithIt {
 
     // ---- helpers of several calls
 
+    private static boolean hasBit(long bits, int place) {
+        return ((bits >>> place) & 1) != 0;
+    }
+
     private int remembered(int answer) {
         if (answer >= 0) {
             past.push(before);
@@ -903,7 +907,7 @@ public final class BuriedWithIt {
                 }
             }
             int least = 0;
-            while (least < 63 && (seen >>> least & 1) != 0) {
+            while (least < 63 && hasBit(seen, least)) {
                 least++;
             }
             nimbers[gates] = least;
@@ -1032,10 +1036,10 @@ public final class BuriedWithIt {
         }
 
         private long flood(long can, int from) {
-            long reached = can & 1L << from;
+            long reached = can & (1L << from);
             for (int i = 0; i < size; i++) {
-                long sideways = (reached & notLastColumn) << 1 | (reached & notFirstColumn) >>> 1;
-                long wider = (reached | sideways | reached << columns | reached >>> columns) & can;
+                long sideways = ((reached & notLastColumn) << 1) | ((reached & notFirstColumn) >>> 1);
+                long wider = (reached | sideways | (reached << columns) | (reached >>> columns)) & can;
                 if (wider == reached) {
                     break;
                 }
@@ -1102,7 +1106,7 @@ public final class BuriedWithIt {
         }
 
         private boolean isLocked(int field) {
-            return (locked >>> field & 1) != 0;
+            return hasBit(locked, field);
         }
 
         private int turnLock(int field) {
@@ -1165,7 +1169,7 @@ public final class BuriedWithIt {
         private long ends() {
             long bits = 0;
             for (int g = 0; g < goers; g++) {
-                bits |= 1L << from[g] | 1L << goal[g];
+                bits |= (1L << from[g]) | (1L << goal[g]);
             }
             return bits;
         }
@@ -1364,12 +1368,12 @@ public final class BuriedWithIt {
                     return false;
                 }
                 release(1);
-                waits--;
+                waits = Math.max(0, waits - 1);
                 open--;
                 return true;
             }
             int binding = bindingOf(sign);
-            if (binding == 0 || binding == 1 && compared[open]) {
+            if (binding == 0 || (binding == 1 && compared[open])) {
                 return false;
             }
             compared[open] |= binding == 1;
@@ -1466,7 +1470,7 @@ public final class BuriedWithIt {
                 case 'k':
                     return state.kind[field];
                 case 'r':
-                    return state.rights[goer] >>> state.kind[field] & 1;
+                    return (state.rights[goer] >>> state.kind[field]) & 1;
                 case 'o':
                     return locked ? 1 : 0;
                 case 'w':
@@ -1562,7 +1566,10 @@ public final class BuriedWithIt {
             way.clear();
             int from = state.from[goer];
             int goal = state.goal[goer];
-            weigh(state, rule, goer);
+            for (int f = 0; f < ground.size; f++) {
+                int hardness = rule.hardness(state, goer, f, state.isLocked(f));
+                cost[f] = hardness > 0 ? hardness * HARD_UNIT + 1 : 0;
+            }
             if (cost[from] == 0 || cost[goal] == 0) {
                 return;
             }
@@ -1570,13 +1577,6 @@ public final class BuriedWithIt {
             if (far[from] < NEVER) {
                 way.hardness = far[from] / HARD_UNIT;
                 follow(from, goal, way);
-            }
-        }
-
-        private void weigh(State state, Rule rule, int goer) {
-            for (int f = 0; f < ground.size; f++) {
-                int hardness = rule.hardness(state, goer, f, state.isLocked(f));
-                cost[f] = hardness > 0 ? hardness * HARD_UNIT + 1 : 0;
             }
         }
 
@@ -1659,7 +1659,7 @@ public final class BuriedWithIt {
         private int over(State state, int field) {
             int bits = 0;
             for (int g = 0; g < state.goers; g++) {
-                bits |= (int) (paths[g].bits >>> field & 1) << g;
+                bits |= hasBit(paths[g].bits, field) ? 1 << g : 0;
             }
             return bits;
         }
@@ -1732,8 +1732,8 @@ public final class BuriedWithIt {
         }
 
         private boolean comes(State state, int goer, long locked) {
-            long can = ifOpen[goer] & ~locked | ifLocked[goer] & locked;
-            return (ground.flood(can, state.from[goer]) >>> state.goal[goer] & 1) != 0;
+            long can = (ifOpen[goer] & ~locked) | (ifLocked[goer] & locked);
+            return hasBit(ground.flood(can, state.from[goer]), state.goal[goer]);
         }
 
         private int blockedBy(State state, long locked) {
@@ -1788,7 +1788,7 @@ public final class BuriedWithIt {
             }
             queued = 0;
             visit(start, start);
-            for (int i = 0; i < queued; i++) {
+            for (int i = 0; i < queued && i < queue.length; i++) {
                 int place = queue[i];
                 if (place == target) {
                     return true;
@@ -1812,12 +1812,12 @@ public final class BuriedWithIt {
 
         private void leave(int place) {
             int field = place / 2;
-            if ((through >>> field & 1) != 0) {
+            if (hasBit(through, field)) {
                 visit(place - 1, place);
             }
             for (int d = 0; d < 4; d++) {
                 int next = ground.beside[4 * field + d];
-                if (next >= 0 && (can >>> next & 1) != 0 && (along[d] >>> field & 1) == 0) {
+                if (next >= 0 && hasBit(can, next) && !hasBit(along[d], field)) {
                     visit(2 * next, place);
                 }
             }
@@ -1825,13 +1825,13 @@ public final class BuriedWithIt {
 
         private void enter(int place) {
             int field = place / 2;
-            if ((through >>> field & 1) == 0) {
+            if (!hasBit(through, field)) {
                 visit(place + 1, place);
             }
             for (int d = 0; d < 4; d++) {
                 int other = ground.beside[4 * field + d];
                 // The way from the other FIELD to this one is the opposite of d.
-                if (other >= 0 && (along[3 - d] >>> other & 1) != 0) {
+                if (other >= 0 && hasBit(along[3 - d], other)) {
                     visit(2 * other + 1, place);
                 }
             }
@@ -1846,7 +1846,7 @@ public final class BuriedWithIt {
                     return;
                 }
                 if (by / 2 == place / 2) {
-                    through ^= 1L << place / 2;
+                    through ^= 1L << (place / 2);
                 } else if ((by & 1) == 1) {
                     turnStep(by / 2, place / 2);
                 } else {

@@ -83,7 +83,6 @@ public final class FaceTest {
 
     private static void lookAtText() throws java.io.IOException {
         List<String> lines = Files.readAllLines(Path.of("src/main/java/BuriedWithIt.java"));
-        int start = 0;
         for (int i = 0; i < lines.size(); i++) {
             String line = lines.get(i);
             for (String no : RULED_OUT) {
@@ -93,16 +92,11 @@ public final class FaceTest {
             String inner = line.trim();
             boolean opens = inner.startsWith("private ") || inner.startsWith("public ");
             if (opens && inner.endsWith("{") && inner.contains("(")) {
-                start = i;
+                String close = line.substring(0, line.length() - inner.length()) + "}";
+                int length = lines.subList(i, lines.size()).indexOf(close) + 1;
+                must(length <= 60, "line " + (i + 1) + ": " + length + " lines");
             }
-            boolean closes = line.equals("    }") || line.equals("        }");
-            must(!closes || i - start < 60 || start == 0 || line.equals("    }") && i - start > 60 && isClassEnd(lines, i),
-                    "long method at line " + (start + 1));
         }
-    }
-
-    private static boolean isClassEnd(List<String> lines, int i) {
-        return lines.get(i - 1).equals("        }");
     }
 
     public static void main(String[] args) throws java.io.IOException {

@@ -573,6 +573,21 @@ public final class PromisesTest {
         due("GOAL is LOCKED", z.vital(1), -2);
     }
 
+    /** Here the shortest way, once taken, must give FIELDS back, or too few ways are found. */
+    private static final String[][] CROSSED = {{"33......w..", "0021", "2"}, {"33......w..", "1022", "2"},
+        {"33......w..", "2210", "2"}, {"34..........w.", "1220", "2"}, {"65w...w...w....w...w.w........w.", "1252", "2"},
+        {"54....ww......w...w..w", "2342", "2"}, {"65w...w...........w...w.w...ww..", "2054", "2"},
+        {"54w..........ww.......", "3110", "2"}, {"56.....ww..w.......www..wwww.ww.", "3201", "2"},
+        {"45w....w..w.ww...www..", "2201", "2"}, {"56..w...w.....w.ww.w.....www....", "2442", "2"},
+        {"66...w.w..w.........ww........ww......", "3550", "2"}, {"53...........w.ww", "3102", "2"},
+        {"66.w....ww...w...................ww...", "5413", "3"}, {"64.......w.....w.....w..ww", "2210", "3"},
+        {"35...............", "2103", "3"}, {"63..........w.......", "1022", "3"},
+        {"46.......w.......w........", "2532", "3"}, {"44w...............", "1231", "3"},
+        {"64..........w.......ww...w", "0231", "3"}, {"55w....w.........ww........", "3411", "3"},
+        {"65.....w....w.w......w..w.......", "4024", "2"}, {"55......w...........w......", "3024", "3"},
+        {"46.ww.ww.......w.w.......w", "3311", "2"}, {"55w.....w...w......w.......", "1233", "3"},
+        {"66w..www..ww.w.w....w.......w.......w.", "4432", "3"}, {"65.....w..........w..w.....wwww.", "3211", "3"}};
+
     private static void cut() {
         CHECK.promise("23 cut");
         BuriedWithIt x = plain();
@@ -594,6 +609,15 @@ public final class PromisesTest {
         }
         due("FROM is water", Checks.made("43.w........w.", "0132").cut(0), 0);
         due("two ways around", Checks.made("34.....ww.....", "0023").cut(0), 2);
+        for (String[] one : CROSSED) {
+            due("cut " + one[0] + " " + one[1], Checks.made(one[0], one[1]).cut(0), Integer.parseInt(one[2]));
+        }
+        BuriedWithIt z = Checks.made("33.........", "1101;1110;1112;1121;2100;0110");
+        for (int g = 0; g < 4; g++) {
+            due("beside, on each side", z.cut(g), -2);
+        }
+        due("across", z.cut(4), 2);
+        due("across, and all around", z.cut(5), 3);
     }
 
     private static void frees() {
@@ -616,6 +640,12 @@ public final class PromisesTest {
         x.build(8, 3);
         due("by none", x.frees(), -2);
         row("the ROW stays", x, 8 + 32 + 256);
+        BuriedWithIt all = Checks.made("24........", "0001;0203;1011;1213");
+        for (int f = 0; f < 8; f++) {
+            all.lock(f);
+        }
+        due("all eight", all.frees(), 8);
+        row("all eight", all, 255);
         BuriedWithIt y = Checks.made("15.....", "0004");
         say(y, "o").rule();
         due("LOCKED ones alone", y.frees(), -2);
@@ -738,6 +768,9 @@ public final class PromisesTest {
         due("none yet", y.path(1), -2);
         due("alters", y.alters(1), 20);
         row("alters", y, 2);
+        y.use(99);
+        due("the 99th", y.alters(1), 99);
+        y.use(20);
         due("never", y.alters(0), -2);
         due("no goer", y.alters(2), -1);
         due("no goer", y.alters(-1), -1);
@@ -784,6 +817,14 @@ public final class PromisesTest {
         x.lock(4);
         due("the PATH as it is now", x.fits(), 0);
         x.lock(4);
+        x.forget();
+        x.print(4, 1);
+        x.print(0, 1);
+        due("each print counts", x.fits(), 2);
+        x.forget();
+        x.print(2, 0);
+        x.print(3, 0);
+        due("each print counts", x.fits(), 2);
         x.print(2, 1);
         due("both can't be", x.fits(), 0);
         row("none", x, 0);
